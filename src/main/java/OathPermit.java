@@ -267,13 +267,10 @@ public final class OathPermit {
             odds.passHour(w, t, what == 1);
         }
         long upper = what == 0 ? odds.calm() : odds.slips;
-        long divisor = commonDivisor(upper, odds.whole);
-        if (divisor <= 0) {
-            return GONE + OUTSIDE;
-        }
-        return (part == 0 ? upper : odds.whole) / divisor;
+        return (part == 0 ? upper : odds.whole) / commonDivisor(upper, odds.whole);
     }
 
+    /** Never less than 1, so that it can divide. */
     private static long commonDivisor(long a, long b) {
         long big = a;
         long small = b;
@@ -282,7 +279,7 @@ public final class OathPermit {
             big = small;
             small = rest;
         }
-        return big;
+        return Math.max(1, big);
     }
 
     // ---- 4 who swore, quarrels
@@ -780,6 +777,7 @@ public final class OathPermit {
     /**
      * By hour, temper and slips: the fewest stamps by which one with that temper slips, from that
      * hour on, so often at the most. Slips are counted, not stamps left, for there are fewer of them.
+     * Behind the last hour nobody slips any more: that row stays 0.
      */
     static final class Thrift {
         private static final int TEMPERS = MOST_LIMIT + 1;

@@ -551,6 +551,13 @@ public final class PromisesTest {
                 pad Bh9Bh9Bh9
                 judge 2 = 2
                 slipped 3 = 20
+                # what an earlier pad came to is forgotten
+                pad .
+                slipped 0 = NONE
+                slipped 1 = NONE
+                slipped 2 = 0
+                slipped 3 = 0
+                judge 2 = 0
                 pad A
                 slipped 4 = OUTSIDE
                 slipped -1 = OUTSIDE
@@ -722,7 +729,7 @@ public final class PromisesTest {
                 deal 20 0 -1 = 0
                 one 3 0 50 0 0 = 2
                 one 4 9 0 0 0 = 3
-                # both of 3 and 1 need 8 between the mishaps; 4 slips at once and then needs 8 for none
+                # 1 and 4 slip at once, 3 before the second mishap if it has not 8
                 deal 0 990000 -1 = 3
                 deal 0 790000 -1 = 3
                 deal 6 790000 -1 = 2
@@ -741,6 +748,18 @@ public final class PromisesTest {
                 deal 9 0 1 = 0
                 deal 9 0 3 = 0
                 deal 9 0 4 = 9
+                # before the second mishap 0 needs 4, 1 needs 1, and 4 slips anyhow
+                one 0 5 0 0 0 = 4
+                deal 0 450000 -1 = 3
+                deal 4 450000 -1 = 2
+                deal 4 450000 0 = 0
+                deal 4 450000 1 = 1
+                deal 4 450000 3 = 0
+                deal 4 450000 4 = 3
+                deal 5 450000 -1 = 1
+                deal 5 450000 0 = 4
+                deal 5 450000 1 = 1
+                deal 5 450000 4 = 0
                 """);
         run(due, "promise 15, refusals", """
                 one 1 2 0 0 0 = 1
@@ -872,7 +891,7 @@ public final class PromisesTest {
                 risk 1 1 9 10 1 1 = 1
                 risk 1 8 9 0 0 0 = 1
                 risk 1 8 9 0 1 0 = 0
-                # 3 of 10, twice from 9 by 1: 9 9, or the hour calms to 8 and it can not slip any more
+                # from 9 by 1 it slips with 3/10, else 8 stands, from which it can not
                 risk 9 1 1 3 0 0 = 7
                 risk 9 1 1 3 0 1 = 10
                 risk 9 2 1 3 0 0 = 7
@@ -882,14 +901,18 @@ public final class PromisesTest {
                 risk 9 2 2 3 0 1 = 100
                 risk 9 2 2 3 1 0 = 51
                 risk 9 2 2 3 1 1 = 100
+                # the hour ends behind a mishap too: 5 less 1, 9 less 1, 13
+                risk 0 2 5 10 0 0 = 1
+                risk 0 3 5 10 0 0 = 0
+                risk 0 3 5 10 1 0 = 1
                 risk 9 2 2 5 1 0 = 3
                 risk 9 2 2 5 1 1 = 4
-                # who slipped goes on from 0, and slips again: 9 9 in each hour
+                # who slipped goes on from 0: a slip, then 9, then a slip again
                 risk 9 3 9 10 1 0 = 2
                 risk 9 3 9 10 0 0 = 0
                 risk 9 8 1 10 1 0 = 1
                 risk 9 8 1 10 1 1 = 1
-                # from 0 by 9, tenths 2: the second slips behind the first, not at 0
+                # it slips only if there is a mishap in both hours
                 risk 0 2 9 2 0 0 = 24
                 risk 0 2 9 2 0 1 = 25
                 set 0 20 = 9
@@ -1020,6 +1043,23 @@ public final class PromisesTest {
                 ask -1 = OUTSIDE
                 ask MAX = OUTSIDE
                 """);
+        run(due, "promise 22, all six in one yard", """
+                one 0 0 0 0 0 = 1
+                one 1 0 0 0 0 = 2
+                one 2 0 0 0 0 = 3
+                one 3 0 0 0 0 = 4
+                one 4 0 0 0 0 = 5
+                one 5 0 0 0 0 = 6
+                ask 0 = 0
+                ask 1 = 6
+                # far off, the last one asked tells one from five
+                one 5 0 0 0 9 = 6
+                ask 0 = 0
+                ask 1 = 5
+                leave 0 = 5
+                ask 0 = 1
+                ask 1 = 4
+                """);
         run(due, "promise 23", """
                 quarrel 0 1 0 = 0
                 quarrel 0 1 1 = NONE
@@ -1105,6 +1145,54 @@ public final class PromisesTest {
                 year MIN MIN MIN = OUTSIDE
                 same
                 """);
+        run(due, "promise 24, two acts behind one another", """
+                one 2 0 9 0 5 = 1
+                one 3 0 9 0 5 = 2
+                one 5 0 9 0 5 = 3
+                # 21224, 18986: C by t 3, an oath of 1; 26849, 47639: F by k 5, an oath of 3
+                year 282 2 2 = 3
+                permit 2 4 = 0
+                year 282 2 2 = 2
+                year 282 1 2 = 3
+                permit 5 8 = 0
+                year 357 2 2 = 2
+                permit 5 7 = 8
+                year 357 2 2 = 5
+                # 47474, 21626: C by r 5, an oath of 1; 14787, 60507: D by h 6, an oath of 1
+                permit 2 2 = 4
+                year 632 2 2 = 4
+                permit 2 13 = 2
+                year 632 2 2 = 5
+                permit 3 1 = 0
+                year 1070 2 2 = 5
+                permit 3 14 = 1
+                year 1070 2 2 = 6
+                # 29092, by the highest seed: E by t 8
+                year 9999 1 2 = 0
+                one 4 0 0 0 5 = 4
+                year 9999 1 2 = 8
+                """);
+        run(due, "promise 24, sales and walks", """
+                # 5699, 34277: F sells 1 to E, and has a mishap of weight 8
+                one 5 2 1 0 5 = 1
+                one 4 0 0 1 5 = 2
+                year 75 2 0 = 1
+                year 75 2 1 = 1
+                one 4 0 0 0 5 = 2
+                year 75 2 1 = 0
+                one 4 0 99 1 5 = 2
+                year 75 2 1 = 0
+                # 10649, 12305: F goes to yard 1, and has a mishap of weight 2
+                one 5 8 0 50 9 = 2
+                one 4 0 0 0 1 = 2
+                year 141 2 0 = 1
+                year 141 2 1 = 10
+                one 4 0 0 0 9 = 2
+                year 141 2 1 = 0
+                # ONE A's temper counts among all
+                one 0 7 0 0 0 = 3
+                year 141 2 2 = 7
+                """);
         run(due, "promise 24, the pad is no matter", """
                 one 2 7 20 40 5 = 1
                 pad C
@@ -1158,7 +1246,26 @@ public final class PromisesTest {
                 told 3 = 9
                 told 4 = 3
                 told 20 = 12
+                # whom the sights asked, and what was heard, is kept too
+                one 0 0 0 0 0 = 2
+                one 1 0 0 0 9 = 2
+                set 1 2 = 9
+                forget = 3
+                seen 0 true = 1
+                who = 1
+                image 0 = 1
+                forget = 1
+                seen 1 true = 1
+                who = 2
+                restore 0 = 1
+                who = 1
+                forget = 1
+                seen 0 false = 1
+                who = 2
+                restore 0 = 1
+                who = 1
                 # what is kept anew takes its place
+                restore 1 = 1
                 set 1 0 = 9
                 image 0 = 1
                 set 1 7 = 0
