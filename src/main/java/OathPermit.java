@@ -434,7 +434,7 @@ public final class OathPermit {
         }
 
         boolean has(int one) {
-            return within(one, 0, ONES - 1) && (there >> one & 1) == 1;
+            return one >= 0 && one < ONES && (there >> one & 1) == 1;
         }
 
         int count() {
@@ -442,12 +442,11 @@ public final class OathPermit {
         }
 
         int get(int one, int fact) {
-            boolean known = within(one, 0, ONES - 1) && within(fact, 0, FACTS - 1);
-            return known ? facts[one * FACTS + fact] : 0;
+            return one >= 0 && one < ONES && fact >= 0 && fact < FACTS ? facts[one * FACTS + fact] : 0;
         }
 
         void put(int one, int fact, int v) {
-            if (within(one, 0, ONES - 1) && within(fact, 0, FACTS - 1)) {
+            if (one >= 0 && one < ONES && fact >= 0 && fact < FACTS) {
                 facts[one * FACTS + fact] = v;
             }
         }
@@ -486,18 +485,20 @@ public final class OathPermit {
             return sum;
         }
 
-        boolean inEarshot(int one, int other) {
-            return Math.abs(get(one, YARD) - get(other, YARD)) <= ears;
-        }
-
         int hearers(int one) {
+            int yard = get(one, YARD);
             int bits = 0;
             for (int other = 0; other < ONES; other++) {
-                if (other != one && has(other) && inEarshot(one, other)) {
+                if (other != one && has(other) && Math.abs(yard - get(other, YARD)) <= ears) {
                     bits |= 1 << other;
                 }
             }
             return bits;
+        }
+
+        /** Whether this one, asked, says that it heard, if that one slipped; who slipped did. */
+        private boolean saysHeard(int listener, int slipper) {
+            return listener == slipper || (hearers(slipper) >> listener & 1) == 1;
         }
 
         void addSight(int one, boolean heard) {
@@ -522,7 +523,7 @@ public final class OathPermit {
         private boolean allSightsFit(int one) {
             for (int i = 0; i < sights && i < MOST_SIGHTS; i++) {
                 boolean heard = (heardBits >> i & 1) == 1;
-                if (!has(asked[i]) || inEarshot(one, asked[i]) != heard) {
+                if (!has(asked[i]) || saysHeard(asked[i], one) != heard) {
                     return false;
                 }
             }
@@ -533,7 +534,7 @@ public final class OathPermit {
         int mostLeft(int suspects, int listener) {
             int ifHeard = 0;
             for (int one = 0; one < ONES; one++) {
-                if ((suspects >> one & 1) == 1 && inEarshot(one, listener)) {
+                if ((suspects >> one & 1) == 1 && saysHeard(listener, one)) {
                     ifHeard++;
                 }
             }

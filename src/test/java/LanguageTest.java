@@ -12,6 +12,7 @@ import com.sun.source.tree.LambdaExpressionTree;
 import com.sun.source.tree.LiteralTree;
 import com.sun.source.tree.MemberReferenceTree;
 import com.sun.source.tree.MemberSelectTree;
+import com.sun.source.tree.MethodInvocationTree;
 import com.sun.source.tree.MethodTree;
 import com.sun.source.tree.NewClassTree;
 import com.sun.source.tree.SynchronizedTree;
@@ -22,6 +23,7 @@ import com.sun.source.tree.VariableTree;
 import com.sun.source.tree.WhileLoopTree;
 import com.sun.source.util.JavacTask;
 import com.sun.source.util.SourcePositions;
+import com.sun.source.util.TreePath;
 import com.sun.source.util.TreePathScanner;
 import com.sun.source.util.Trees;
 import java.io.File;
@@ -29,9 +31,12 @@ import java.io.IOException;
 import java.nio.charset.StandardCharsets;
 import java.nio.file.Files;
 import java.util.Arrays;
+import java.util.HashMap;
 import java.util.HashSet;
 import java.util.List;
+import java.util.Map;
 import java.util.Set;
+import javax.lang.model.element.Element;
 import javax.lang.model.element.Modifier;
 import javax.tools.JavaCompiler;
 import javax.tools.StandardJavaFileManager;
@@ -56,10 +61,15 @@ public final class LanguageTest {
         JavaCompiler compiler = ToolProvider.getSystemJavaCompiler();
         StandardJavaFileManager files = compiler.getStandardFileManager(null, null, StandardCharsets.UTF_8);
         JavacTask task = (JavacTask) compiler.getTask(null, files, null, null, null, files.getJavaFileObjects(file));
-        SourcePositions positions = Trees.instance(task).getSourcePositions();
-        for (CompilationUnitTree unit : task.parse()) {
+        Trees trees = Trees.instance(task);
+        Iterable<? extends CompilationUnitTree> units = task.parse();
+        task.analyze();
+        for (CompilationUnitTree unit : units) {
             due.holds("no package, one class", unit.getPackageName() == null && unit.getTypeDecls().size() == 1);
-            new Rules(due, unit, positions).scan(unit, null);
+            new Rules(due, unit, trees.getSourcePositions()).scan(unit, null);
+            Calls calls = new Calls(trees);
+            calls.scan(unit, null);
+            calls.judge(due);
         }
         files.close();
         due.finish();
@@ -233,6 +243,50 @@ public final class LanguageTest {
         public Void visitMemberReference(MemberReferenceTree tree, Void none) {
             never("method reference", tree);
             return null;
+        }
+    }
+
+    /** Which method calls which: how deep calls go, library calls too. */
+    private static final class Calls extends TreePathScanner<Void, Void> {
+        private final Trees trees;
+        private final Map<Element, Set<Element>> called = new HashMap<>();
+        private Element inside = null;
+
+        Calls(Trees trees) {
+            this.trees = trees;
+        }
+
+        @Override
+        public Void visitMethod(MethodTree tree, Void none) {
+            inside = trees.getElement(getCurrentPath());
+            called.put(inside, new HashSet<>());
+            return super.visitMethod(tree, none);
+        }
+
+        @Override
+        public Void visitMethodInvocation(MethodInvocationTree tree, Void none) {
+            Element target = trees.getElement(new TreePath(getCurrentPath(), tree.getMethodSelect()));
+            if (inside != null && target != null) {
+                called.get(inside).add(target);
+            }
+            return super.visitMethodInvocation(tree, none);
+        }
+
+        void judge(Due due) {
+            for (Element method : called.keySet()) {
+                int depth = depth(method, 0);
+                due.holds(method + " goes at most eight calls deep: " + depth, depth <= 8);
+            }
+        }
+
+        private int depth(Element method, int above) {
+            int deepest = 0;
+            if (above < 20 && called.containsKey(method)) {
+                for (Element next : called.get(method)) {
+                    deepest = Math.max(deepest, depth(next, above + 1));
+                }
+            }
+            return deepest + 1;
         }
     }
 }
