@@ -6,9 +6,10 @@ import java.util.ArrayList;
 import java.util.Arrays;
 import java.util.LinkedHashMap;
 import java.util.List;
+import java.util.Locale;
 import java.util.Map;
 
-/** The document's words by part ("terms", "promise 1" ..), and which of them a test has quoted. */
+/** The document's words by part ("what it is", "terms", "promise 1" ..), and which of them a test has quoted. */
 final class Document {
     private final Map<String, StringBuilder> parts = new LinkedHashMap<>();
     private final Map<String, boolean[]> quoted = new LinkedHashMap<>();
@@ -28,8 +29,8 @@ final class Document {
     }
 
     private static String nameOf(String heading) {
-        if (heading.equals("## Terms")) {
-            return "terms";
+        if (heading.equals("## What it is") || heading.equals("## Terms")) {
+            return heading.substring(3).toLowerCase(Locale.ROOT);
         }
         return heading.startsWith("## Promise ") ? "promise " + heading.substring(11, heading.indexOf(':')) : "";
     }

@@ -8,8 +8,8 @@ import java.util.stream.Collectors;
 import java.util.stream.Stream;
 
 /**
- * The tests of src/test/edges: to each sentence of the document's Terms and Promises the edges that
- * it names. A test begins with "== part: what it asks", then come the words of the document ("), as
+ * The tests of src/test/edges: to each sentence of the document's What it is, Terms and Promises the
+ * edges that it names. A test begins with "== part: what it asks", then come the words of the document ("), as
  * they stand in that part, then a script. "== lines NAME" keeps lines for "begin NAME". Words of the
  * document that no test quotes are a fault, so that a sentence that is added is missed.
  */

@@ -5,25 +5,16 @@ import java.lang.reflect.Field;
 import java.lang.reflect.InvocationTargetException;
 import java.lang.reflect.Method;
 import java.lang.reflect.Modifier;
+import java.nio.file.Files;
+import java.nio.file.Path;
 import java.util.ArrayList;
 import java.util.Arrays;
-import java.util.HashMap;
 import java.util.List;
-import java.util.Map;
 import java.util.Random;
 import java.util.TreeSet;
 
 /** The public face is the document's; no arguments make a call throw; calls make next to no objects. */
 public final class FaceTest {
-    private static final String[] METHODS = {
-        "int one(int,int,int,int,int)", "int leave(int)", "int permit(int,int)", "int set(int,int)",
-        "int say(int)", "int wipe()", "int fault()", "int judge(int)", "int behind(int,int)",
-        "int slipped(int)", "int done()", "int hears(int)", "int spend(int,int,int,int)",
-        "int deal(int,int,int)", "int seats(int,int)", "int cover(int,int,int,int,int)",
-        "long risk(int,int,int,int,int,int)", "int seen(int,boolean)", "int forget()", "int who()",
-        "int ask(int)", "int quarrel(int,int,int)", "int year(int,int,int)", "int image(int)",
-        "int restore(int)", "int told(int)"
-    };
     private static final int[] WILD = {
         Integer.MIN_VALUE, Integer.MIN_VALUE + 1, -1000000000, -65536, -10, -7, -6, -2, -1, 0, 1, 2, 3, 5, 6, 7,
         8, 9, 10, 15, 16, 20, 21, 31, 32, 33, 40, 41, 46, 60, 65, 66, 99, 100, 999, 1000, 9999, 10000, 65537,
@@ -31,12 +22,34 @@ public final class FaceTest {
     };
 
     public static void main(String[] args) throws Exception {
+        Path project = Path.of(System.getProperty("project", "."));
         Due due = new Due();
-        face(due);
-        constants(due);
+        Face face = new Face(project.resolve("../shared/DOC.md"));
+        String source = Files.readString(project.resolve("src/main/java/OathPermit.java"));
+        documentTellsIt(due, face);
+        face(due, face);
+        constants(due, face);
+        asWritten(due, face, source);
+        sections(due, face, source);
         wildArguments(due);
         fewObjects(due);
         due.finish();
+    }
+
+    /** Counts what was read, for a face of nothing would be like any; the document's parts tell the same. */
+    private static void documentTellsIt(Due due, Face face) {
+        due.is("constants of the document", face.values.size(), 7);
+        due.is("constructors of the document", face.constructors.size(), 1);
+        due.is("methods of the document", face.methods.size(), 26);
+        due.is("sections of the document", face.sections.size(), 4);
+        due.holds("Terms tell the same constants: " + face.valuesOfTerms, face.valuesOfTerms.equals(face.values));
+        List<String> code = new ArrayList<>(face.constructors);
+        code.addAll(face.methods);
+        List<String> promised = new ArrayList<>();
+        for (String head : face.promised) {
+            promised.add("public " + head);
+        }
+        due.holds("the promises are of the face's calls: " + promised, promised.equals(code));
     }
 
     private static String names(Class<?>[] types) {
@@ -47,7 +60,7 @@ public final class FaceTest {
         return text.toString();
     }
 
-    private static void face(Due due) {
+    private static void face(Due due, Face face) {
         Class<?> c = OathPermit.class;
         due.holds("the class is public and final", Modifier.isPublic(c.getModifiers()) && Modifier.isFinal(c.getModifiers()));
         due.holds("it extends Object and implements nothing", c.getSuperclass() == Object.class && c.getInterfaces().length == 0);
@@ -63,36 +76,92 @@ public final class FaceTest {
                 due.holds(method.getName() + " is public, and an object's own", Modifier.isPublic(method.getModifiers()) && !Modifier.isStatic(method.getModifiers()));
             }
         }
-        due.holds("the methods are the document's: " + found, found.equals(new TreeSet<>(Arrays.asList(METHODS))));
-        for (Method method : c.getDeclaredMethods()) {
-            due.holds("no private method bears a public one's name: " + method.getName(),
-                    !Modifier.isPrivate(method.getModifiers()) || !publicNames.contains(method.getName()));
+        TreeSet<String> want = new TreeSet<>();
+        for (String method : face.methods) {
+            want.add(Face.withoutNames(method));
         }
+        due.holds("the methods are the document's: " + found, found.equals(want));
+        privateNames(due, c, publicNames);
         for (Class<?> inside : c.getDeclaredClasses()) {
+            privateNames(due, inside, publicNames);
             int mods = inside.getModifiers();
             due.holds(inside + " is static and not public", Modifier.isStatic(mods) && !Modifier.isPublic(mods) && !Modifier.isProtected(mods));
         }
     }
 
-    private static void constants(Due due) throws IllegalAccessException {
-        Map<String, Long> want = new HashMap<>();
-        String[] names = {"UNKNOWN", "OUTSIDE", "STATE", "FULL", "NO", "NONE"};
-        for (int i = 0; i < names.length; i++) {
-            want.put(names[i], -1L - i);
+    private static void privateNames(Due due, Class<?> c, TreeSet<String> publicNames) {
+        for (Method method : c.getDeclaredMethods()) {
+            due.holds("no private method bears a public one's name: " + method.getName(),
+                    !Modifier.isPrivate(method.getModifiers()) || !publicNames.contains(method.getName()));
         }
-        want.put("GONE", -1000000000000000000L);
+    }
+
+    private static void constants(Due due, Face face) throws IllegalAccessException {
         int open = 0;
         for (Field field : OathPermit.class.getDeclaredFields()) {
             if (!Modifier.isPrivate(field.getModifiers())) {
                 open++;
                 int mods = field.getModifiers();
-                due.holds(field.getName() + " is a public constant", Modifier.isPublic(mods) && Modifier.isStatic(mods) && Modifier.isFinal(mods));
-                due.holds(field.getName() + " is of its type", field.getType() == (field.getName().equals("GONE") ? long.class : int.class));
-                due.holds(field.getName() + " is the document's", want.containsKey(field.getName())
-                        && field.getType().isPrimitive() && ((Number) field.get(null)).longValue() == want.get(field.getName()));
+                String name = field.getName();
+                due.holds(name + " is a public constant", Modifier.isPublic(mods) && Modifier.isStatic(mods) && Modifier.isFinal(mods));
+                due.holds(name + " is of the document's kind: " + field.getType(), kindOf(face, name).equals(field.getType().getName()));
+                due.holds(name + " is the document's: " + field.get(null), face.values.containsKey(name)
+                        && field.getType().isPrimitive() && ((Number) field.get(null)).longValue() == face.values.get(name));
             }
         }
-        due.is("constants", open, want.size());
+        due.is("constants", open, face.values.size());
+    }
+
+    private static String kindOf(Face face, String name) {
+        for (String line : face.constants) {
+            if (line.contains(" " + name + " = ")) {
+                return line.split(" ")[3];
+            }
+        }
+        return "none";
+    }
+
+    /** The arguments' names too: each line of the document's code stands in the source, a method's with its body. */
+    private static void asWritten(Due due, Face face, String source) {
+        due.holds("the class is named as in the document", source.contains("\npublic final class OathPermit {\n"));
+        for (String line : face.constants) {
+            due.holds("as in the document: " + line, source.contains("\n    " + line + ";\n"));
+        }
+        for (String line : face.constructors) {
+            due.holds("as in the document: " + line, source.contains("\n    " + line + " {\n"));
+        }
+        for (String line : face.methods) {
+            due.holds("as in the document: " + line, source.contains("\n    " + line + " {\n"));
+        }
+    }
+
+    /** The calls stand in the document's order, each behind the words of its section. */
+    private static void sections(Due due, Face face, String source) {
+        List<String> found = new ArrayList<>();
+        for (String line : source.split("\n")) {
+            if (line.startsWith("    // ---- ")) {
+                found.add(line.substring("    // ".length()));
+            } else if (line.matches("    public \\w+ \\w+\\(.*")) {
+                found.add(nameOf(line));
+            }
+        }
+        List<String> want = new ArrayList<>();
+        List<String> named = new ArrayList<>();
+        for (String words : face.sections.keySet()) {
+            want.add(words);
+            want.addAll(face.sections.get(words));
+            named.addAll(face.sections.get(words));
+        }
+        due.holds("sections and calls are in the document's order: " + found, found.equals(want));
+        List<String> all = new ArrayList<>();
+        for (String method : face.methods) {
+            all.add(nameOf(method));
+        }
+        due.holds("the document's sections name all calls: " + named, named.equals(all));
+    }
+
+    private static String nameOf(String method) {
+        return method.substring(0, method.indexOf('(')).replaceFirst("^.* ", "");
     }
 
     private static List<Method> calls() {
